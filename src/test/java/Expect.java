@@ -1,0 +1,36 @@
+/** Counts the answers that are not as due. */
+final class Expect {
+    private int asked = 0;
+    private int wrong = 0;
+
+    void same(String call, long got, long due) {
+        asked++;
+        if (got != due) {
+            wrong++;
+            System.out.println(call + " answered " + got + ", due is " + due);
+        }
+    }
+
+    void yes(String call, boolean got) {
+        same(call, got ? 1 : 0, 1);
+    }
+
+    /** A call that answers a boolean, refused for a reason. */
+    void denied(String call, StairShop shop, boolean got, int why) {
+        same(call, got ? 1 : 0, 0);
+        same(call + ", trouble()", shop.trouble(), why);
+    }
+
+    /** A call that answers a number, refused for a reason. */
+    void refused(String call, StairShop shop, int got, int why) {
+        same(call, got, StairShop.NONE);
+        same(call + ", trouble()", shop.trouble(), why);
+    }
+
+    void end(String test) {
+        System.out.println(test + ": " + asked + " answers, " + wrong + " not as due");
+        if (wrong > 0 || asked == 0) {
+            System.exit(1);
+        }
+    }
+}
