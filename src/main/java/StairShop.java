@@ -953,23 +953,22 @@ public final class StairShop {
             int start = pos;
             boolean number = isDigit(peek());
             int weight = number ? readNumber() : 1;
+            Name name = number ? null : nameHere();
             if (weight > MOST_NUMBER) {
                 fail(TOO_GREAT, start);
-            } else if (!number && nameHere() == null) {
+            } else if (!number && name == null) {
                 fail(FORM, start);
             } else if (inSum >= MOST_SUM || parts >= MOST_PARTS) {
                 fail(LONG, start);
+            } else if (number && readTimes()) {
+                name = nameHere();
+                if (name == null) {
+                    fail(FORM, pos);
+                }
             }
-            if (fault != 0) {
-                return;
+            if (fault == 0) {
+                keepPart(sign * weight, name);
             }
-            weights[parts] = sign * weight;
-            rows[parts] = Rows.ONE;
-            shifts[parts] = 0;
-            if (!number || readTimes()) {
-                readName();
-            }
-            parts++;
         }
 
         private boolean readTimes() {
@@ -982,20 +981,22 @@ public final class StairShop {
             return true;
         }
 
-        private void readName() {
-            Name name = nameHere();
-            if (name == null) {
-                fail(FORM, pos);
-                return;
+        /** The name still stands here, perhaps with a ' behind it; a plain number has none. */
+        private void keepPart(int weight, Name name) {
+            weights[parts] = weight;
+            rows[parts] = Rows.ONE;
+            shifts[parts] = 0;
+            if (name != null) {
+                pos += name.word.length();
+                rows[parts] = name.row;
+                skipBlanks();
+                if (peek() == '\'') {
+                    pos++;
+                    shifts[parts] = 1;
+                    primed = true;
+                }
             }
-            pos += name.word.length();
-            rows[parts] = name.row;
-            skipBlanks();
-            if (peek() == '\'') {
-                pos++;
-                shifts[parts] = 1;
-                primed = true;
-            }
+            parts++;
         }
 
         /** All digits that stand together; one above the greatest for whatever is above it. */
@@ -1154,7 +1155,7 @@ public final class StairShop {
             return longest;
         }
 
-        /** Some order of the PIECES fills the fewest boards one behind the other, so the last one of each set is tried. */
+        /** Some order of the PIECES fills the fewest boards one by one: so each PIECE of a set is tried as its last. */
         int fewest(int length) {
             if (length <= 0) {
                 return NONE;
