@@ -85,8 +85,9 @@ public final class BestTest {
             DUE.same("tried(" + i + ")", shop.tried(i), i < 4 ? 0 : i < 6 ? -2 : 1);
         }
         Laws.law(shop, "all 2<=1");
+        shop.first(7);
         DUE.same("all break one", shop.best(10, 20), -2);
-        DUE.same("trouble()", shop.trouble(), 0);
+        DUE.same("that is no refusal", shop.trouble(), 0);
         bestOf("all break one", shop, 11, -1, -1, -1, -1, 0);
         DUE.same("tried(4)", shop.tried(4), 2);
     }

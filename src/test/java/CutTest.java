@@ -23,6 +23,8 @@ public final class CutTest {
         DUE.same("string(1)", shop.string(1), 14434);
         DUE.refused("string(2)", shop, shop.string(2), 4);
         DUE.refused("string(-1)", shop, shop.string(-1), 4);
+        DUE.same("string(0)", shop.string(0), 14456);
+        DUE.same("trouble() behind an accepted call", shop.trouble(), 0);
         shop.flight(0, 0, 0);
         DUE.same("nothing", shop.string(0), 0);
         DUE.same("trouble()", shop.trouble(), 0);
@@ -31,6 +33,20 @@ public final class CutTest {
         shop.flight(0, 20, 6000);
         // the first 15 of 21 RISERS are 286, then 285: 5,715 of 20
         DUE.same("great", shop.string(0), 82862);
+        // one tread of half the height: 3,000 by 4,000, then by 4,001
+        shop.flight(0, 1, 4000);
+        DUE.same("a whole root", shop.string(0), 50000);
+        shop.flight(0, 1, 4001);
+        DUE.same("50,008.0 and less than a tenth", shop.string(0), 50008);
+        shop.measures(500, 900, 400, 60);
+        shop.flight(0, 1, 1);
+        DUE.same("2,500.02", shop.string(0), 2500);
+        shop.flight(0, 1, 101);
+        DUE.same("2,696.31", shop.string(0), 2696);
+        shop.flight(0, 1, 102);
+        DUE.same("2,700.07", shop.string(0), 2700);
+        shop.flight(0, 1, 103);
+        DUE.same("2,703.87", shop.string(0), 2703);
     }
 
     private static void piece() {
@@ -40,6 +56,7 @@ public final class CutTest {
         DUE.refused("piece(-5)", shop, shop.piece(-5), 1);
         for (int i = 1; i <= 12; i++) {
             DUE.same("piece", shop.piece(i == 1 ? 10000 : 1), i);
+            DUE.same("trouble() behind an accepted call", shop.trouble(), 0);
         }
         DUE.refused("the 13th", shop, shop.piece(1), 3);
         DUE.refused("1 ahead of 3", shop, shop.piece(0), 1);

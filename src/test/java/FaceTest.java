@@ -19,8 +19,9 @@ public final class FaceTest {
         "int clear()", "int fault()", "int feed(int,int,int,int,int)", "int law(int)", "int may()",
         "int piece(int)", "int riser(int)", "int size(int)", "int string(int)", "int sweep()", "int tell()",
         "int told(int)", "int tread(int,int)", "int tried(int)", "int trouble()", "int undo()", "int where()"};
-    private static final String[] TEXTS = {"all riser<=190", "some kind>=1", "all going'-going<=1 and 1-going'+going<=2",
-        "all head>=2000", "some number'>=5 and 2*riser+going<=640", "all 1<=", "all 99999<=1", "some narrow'>=30"};
+    private static final String[] TEXTS = {"all riser<=190", "some kind>=1", "all head>=2000", "all 1<=",
+        "all going'-going<=1 and 1-going'+going<=2", "some number'>=5 and 2*riser+going<=640", "all 99999<=1",
+        "some narrow'>=30"};
 
     public static void main(String[] args) throws ReflectiveOperationException {
         face();

@@ -71,6 +71,10 @@ public final class LawTest {
         wrong("alll 1<=1", 1, 0);
         wrong("allriser<=1", 1, 0);
         wrong("ALL 1<=1", 1, 0);
+        wrong("bll 1<=1", 1, 0);
+        wrong("allz 1<=1", 1, 0);
+        wrong("all{1<=1", 1, 3);
+        wrong("all`1<=1", 1, 3);
         wrong("allX 1<=1", 1, 3);
         wrong("all ", 1, 4);
         wrong("all and", 1, 4);

@@ -77,6 +77,10 @@ public final class SheetTest {
         DUE.yes("alter", shop.alter(1, 0));
         DUE.same("told(1)", shop.told(1), ~77);
         DUE.same("trouble()", shop.trouble(), 0);
+        DUE.yes("the first", shop.alter(0, 6));
+        DUE.same("told(0)", shop.told(0), 6);
+        DUE.yes("the last", shop.alter(47, 1));
+        DUE.same("told(47)", shop.told(47), 221);
         DUE.same("the stair is as it was", shop.tread(0, 1), 200);
         DUE.same("no act", shop.size(10), 0);
     }
