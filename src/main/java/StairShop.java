@@ -211,14 +211,10 @@ public final class StairShop {
     }
 
     public int broken(int i, int what) {
-        Law asked = plan.lawAt(i);
+        Law asked = askedLaw(i, what);
         if (asked == null) {
-            return refuse(NONE_SUCH);
+            return NONE;
         }
-        if (!within(what, 0, 3)) {
-            return refuse(BY_NUMBER);
-        }
-        trouble = 0;
         verdict.judge(asked, laidRows());
         switch (what) {
             case 0: return verdict.broken ? 1 : 0;
@@ -229,14 +225,10 @@ public final class StairShop {
     }
 
     public int about(int i, int what) {
-        Law asked = plan.lawAt(i);
+        Law asked = askedLaw(i, what);
         if (asked == null) {
-            return refuse(NONE_SUCH);
+            return NONE;
         }
-        if (!within(what, 0, 3)) {
-            return refuse(BY_NUMBER);
-        }
-        trouble = 0;
         switch (what) {
             case 0: return asked.some ? 1 : 0;
             case 1: return asked.ends.length;
@@ -403,6 +395,17 @@ public final class StairShop {
     private boolean deny(int why) {
         trouble = why;
         return false;
+    }
+
+    /** LAW i of which one of four things is asked, or null with the trouble. */
+    private Law askedLaw(int i, int what) {
+        Law asked = plan.lawAt(i);
+        if (asked == null) {
+            trouble = NONE_SUCH;
+            return null;
+        }
+        trouble = within(what, 0, 3) ? 0 : BY_NUMBER;
+        return trouble == 0 ? asked : null;
     }
 
     /** An act that may be refused is accepted: the stair ahead of it is kept for undo. */
