@@ -2,6 +2,12 @@
 final class Expect {
     private int asked = 0;
     private int wrong = 0;
+    private String sentence = "";
+
+    /** What the answers asked from here on are due by: words of the document. */
+    void says(String words) {
+        sentence = "\"" + words + "\": ";
+    }
 
     void same(String call, long got, long due) {
         asked++;
@@ -9,7 +15,7 @@ final class Expect {
             wrong++;
         }
         if (got != due && wrong <= 50) {
-            System.out.println(call + " answered " + got + ", due is " + due);
+            System.out.println(sentence + call + " answered " + got + ", due is " + due);
         }
     }
 
@@ -21,6 +27,18 @@ final class Expect {
     void denied(String call, StairShop shop, boolean got, int why) {
         same(call, got ? 1 : 0, 0);
         same(call + ", trouble()", shop.trouble(), why);
+    }
+
+    /** A call that answers a boolean and is not refused. */
+    void granted(String call, StairShop shop, boolean got) {
+        same(call, got ? 1 : 0, 1);
+        same(call + ", trouble()", shop.trouble(), 0);
+    }
+
+    /** A call that answers a number and is not refused. */
+    void given(String call, StairShop shop, int got, int due) {
+        same(call, got, due);
+        same(call + ", trouble()", shop.trouble(), 0);
     }
 
     /** A call that answers a number, refused for a reason. */
