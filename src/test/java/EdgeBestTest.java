@@ -64,7 +64,7 @@ public final class EdgeBestTest {
             DUE.same("PRICE", shop.size(8), 860);
             DUE.same("acts", shop.size(10), 0);
         }
-        // a BULL, 7 TREADS more, a LANDING, a TURN of WINDERS: 16 RISERS, FLIGHT 2 being empty
+        // a BULL, 7 TREADS more, a LANDING, three WINDERS, FLIGHT 2 being empty: 13 RISERS
         int[] treads = {7, 1, 1, 3, 13};
         int[] atFirst = {50, 80, 200, 120, 20};
         int all = 7 * 50 + 80 + 200 + 3 * 120 + 13 * 20;
@@ -126,7 +126,8 @@ public final class EdgeBestTest {
             DUE.refused("best(" + r[0] + ", " + r[1] + ")", shop, shop.best(r[0], r[1]), 1);
             bestOf("ahead of any still", shop, -1, -1, -1, -1, -1, -1);
         }
-        int[][] granted = {{2, 2, 90, 1}, {2, 67, 90, 20}, {67, 67, -2, 0}, {21, 21, 1420, 1}, {2, 3, 90, 2}, {66, 67, -2, 0}};
+        int[][] granted = {{2, 2, 90, 1}, {2, 67, 90, 20}, {67, 67, -2, 0}, {21, 21, 1420, 1}, {2, 3, 90, 2},
+            {66, 67, -2, 0}};
         for (int[] g : granted) {
             StairShop shop = new StairShop();
             DUE.given("best(" + g[0] + ", " + g[1] + ")", shop, shop.best(g[0], g[1]), g[2]);

@@ -30,6 +30,7 @@ public final class EdgeLawTest {
         faultOfTheLatest();
         repealOfNone();
         mayOfNone();
+        eachLawForItself();
         relHoldsAtAsMuch();
         brokenIndex();
         brokenWhat();
@@ -244,7 +245,9 @@ public final class EdgeLawTest {
 
     private static void lettersThatStandTogether() {
         DUE.says("small letters that stand together that are no word that may stand there: the first of them");
-        for (String word : new String[] {"a", "al", "alll", "allx", "xall", "som", "somes", "and", "riser", "z"}) {
+        String[] words = {"a", "al", "alll", "alla", "allz", "zll", "azl", "alz", "xall", "som", "somes", "zome",
+            "somz", "and", "riser", "z"};
+        for (String word : words) {
             wrong(word + " 1<=1", 1, 0);
             wrong("  " + word + " 1<=1", 1, 2);
         }
@@ -254,6 +257,9 @@ public final class EdgeLawTest {
             wrong("all " + name.substring(0, name.length() - 1) + "<=1", 1, 4);
             wrong("all " + name + "s<=1", 1, 4);
             wrong("all a" + name + "<=1", 1, 4);
+            wrong("all z" + name.substring(1) + "<=1", 1, 4);
+            wrong("all " + name.substring(0, name.length() - 1) + "z<=1", 1, 4);
+            wrong("all " + name + "z<=1", 1, 4);
             wrong("all 3*" + name + "x<=1", 1, 6);
             wrong("all 1<=1+" + name + name, 1, 9);
             wrong("all 1<=1 " + name, 1, 9);
@@ -264,6 +270,8 @@ public final class EdgeLawTest {
         wrong("all 1<=1 all", 1, 9);
         wrong("all 1<=1 an 1<=1", 1, 9);
         wrong("all 1<=1 ands 1<=1", 1, 9);
+        wrong("all 1<=1 znd 1<=1", 1, 9);
+        wrong("all 1<=1 anz 1<=1", 1, 9);
         wrong("all 1<=1 and and", 1, 13);
     }
 
@@ -288,6 +296,11 @@ public final class EdgeLawTest {
         wrong("all *riser<=1", 1, 4);
         wrong("all riser*2<=1", 1, 9);
         wrong("all 2**riser<=1", 1, 6);
+        wrong("all 2*+1<=1", 1, 6);
+        wrong("all 2*<=1", 1, 6);
+        wrong("all 2*1<=1", 1, 6);
+        wrong("all 1<=2*", 1, 9);
+        wrong("all 1<=2* and 1<=1", 1, 10);
         wrong("all 2*riser*riser<=1", 1, 11);
         wrong("all 2riser<=1", 1, 5);
         wrong("all 2'<=1", 1, 5);
@@ -477,6 +490,24 @@ public final class EdgeLawTest {
         verdict(text, treads, 0, -1, -1, 0);
     }
 
+    private static void eachLawForItself() {
+        DUE.says("of those that have a next one, if some NAME has '");
+        StairShop shop = with("some number'<=number'-1 and number'<=1");
+        DUE.given("behind one with '", shop, Laws.law(shop, "all number<=number-0 and number<=11"), 1);
+        DUE.same("' of the first", shop.about(0, 3), 1);
+        DUE.same("no ' of the second", shop.about(1, 3), 0);
+        DUE.same("it is asked of the last TREAD, too", shop.broken(1, 1), 11);
+        DUE.same("by", shop.broken(1, 3), 1);
+        DUE.given("one more", shop, Laws.law(shop, "all count<=20"), 2);
+        DUE.given("fewer RELS", shop, shop.about(2, 1), 1);
+        DUE.given("fewer PARTS", shop, shop.about(2, 2), 2);
+        DUE.same("TREAD of one that is not BROKEN, behind one that is", shop.broken(2, 1), -1);
+        DUE.same("REL", shop.broken(2, 2), -1);
+        DUE.same("by", shop.broken(2, 3), 0);
+        DUE.same("BROKEN", shop.broken(0, 0), 1);
+        DUE.same("not BROKEN", shop.broken(2, 0), 0);
+    }
+
     private static void relHoldsAtAsMuch() {
         DUE.says("REL: <= or >= .. how much more (<=) the left SUM is, or less (>=)");
         kept("all count<=13", 12);
@@ -600,6 +631,9 @@ public final class EdgeLawTest {
         String more = "9999*head+".repeat(7) + "9999*head";
         verdict("all " + more + "<=0", 12, 1, 0, 0, 8 * 9999 * 9999);
         verdict("some 0>=" + more, 12, 1, 0, 0, 8 * 9999 * 9999);
+        // as much as 120 bytes can tell
+        verdict("all " + more + "<=0" + "-9999*head".repeat(3), 12, 1, 0, 0, 11 * 9999 * 9999);
+        verdict("all 0" + "-9999*head".repeat(3) + ">=" + more, 12, 1, 0, 0, 11 * 9999 * 9999);
         StairShop shop = with("all 9999*head-9999<=9999*head-9999*head-9999*head-9999*head-9999*head");
         DUE.same("by", shop.broken(0, 3), 4 * 9999 * 9999 - 9999);
     }

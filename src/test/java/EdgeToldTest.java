@@ -19,6 +19,7 @@ public final class EdgeToldTest {
         undoOfNone();
         undoOfForty();
         undoAndGoOn();
+        undoOfEachNumber();
         undoIsOfAcceptedActs();
         undoLeavesWhatIsNoAct();
         troubleOfEach();
@@ -287,8 +288,66 @@ public final class EdgeToldTest {
         DUE.same("undo()", shop.undo(), 0);
     }
 
+    private static void undoOfEachNumber() {
+        DUE.says("is taken back: 1");
+        StairShop shop = new StairShop();
+        shop.measures(2500, 800, 300, 50);
+        shop.undo();
+        int[] measures = {2600, 900, 400, 60};
+        for (int i = 0; i < 4; i++) {
+            DUE.same("measures, size(" + i + ")", shop.size(i), measures[i]);
+        }
+        shop.beam(0, 100, 2000);
+        shop.beam(500, 600, 2100);
+        shop.clear();
+        shop.beam(220, 9000, 1000);
+        shop.beam(220, 9000, 1000);
+        shop.undo();
+        shop.undo();
+        shop.undo();
+        // TREAD 0, TREAD 2 and TREAD 1 between them
+        DUE.same("clear, the first BEAM", shop.tread(0, 6), 1800);
+        DUE.same("clear, where there was none", shop.tread(1, 6), 9999);
+        DUE.same("clear, the second BEAM", shop.tread(2, 6), 1500);
+        DUE.same("clear, where it ended", shop.tread(3, 6), 9999);
+        shop.path(3);
+        shop.turn(0, 1);
+        shop.flight(2, 5, 900);
+        shop.path(1);
+        shop.undo();
+        DUE.same("path, T", shop.size(5), 4 + 3 + 4 + 1 + 5);
+        DUE.same("path, GOINGS", shop.size(9), 1000 + 628 + 1000 + 900 + 900);
+        Laws.law(shop, "all 2<=1");
+        Laws.law(shop, "all 4<=1");
+        shop.repeal();
+        shop.repeal();
+        Laws.law(shop, "all 1<=1");
+        shop.undo();
+        shop.undo();
+        shop.undo();
+        DUE.same("repeal, the first LAW", shop.broken(0, 3), 1);
+        DUE.same("repeal, the second LAW", shop.broken(1, 3), 3);
+        for (int kind = 0; kind < 5; kind++) {
+            int price = shop.size(8);
+            shop.price(kind, 9999);
+            shop.undo();
+            DUE.same("price of " + kind, shop.size(8), price);
+        }
+        shop.repeal();
+        shop.repeal();
+        shop.best(67, 67);
+        DUE.same("take of none", shop.take() ? 1 : 0, 0);
+        shop.best(30, 30);
+        shop.take();
+        DUE.same("take, T", shop.size(5), 29);
+        shop.undo();
+        DUE.same("take taken back, T", shop.size(5), 17);
+        DUE.same("take taken back, FLIGHT of the last", shop.tread(16, 7), 2);
+    }
+
     private static void undoIsOfAcceptedActs() {
-        DUE.says("act that was accepted .. Acts: measures, path, flight, turn, first, beam, clear (of some), law, repeal, price, take");
+        DUE.says("act that was accepted .. Acts: measures, path, flight, turn, first, beam, clear (of some), law, repeal, "
+                + "price, take");
         StairShop shop = new StairShop();
         int acts = 0;
         shop.measures(2600, 900, 400, 60);
