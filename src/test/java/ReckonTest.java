@@ -117,93 +117,26 @@ public final class ReckonTest {
         DUE.same("may()", shop.may(), first);
     }
 
-    /** All ways of 1 to 20 TREADS for each FLIGHT, sorted by how many RISERS, then by the FLIGHTS' numbers. */
-    private List<int[]> ways(int least, int greatest) {
-        int flights = stair.treads.length;
-        int turns = 0;
-        for (int kind : stair.turns) {
-            turns += kind == 0 ? 1 : 3;
-        }
-        List<int[]> ways = new ArrayList<>();
-        for (int a = 1; a <= 20; a++) {
-            for (int b = 1; b <= (flights > 1 ? 20 : 1); b++) {
-                for (int c = 1; c <= (flights > 2 ? 20 : 1); c++) {
-                    int[] way = Arrays.copyOf(new int[] {a, b, c}, flights);
-                    int risers = Arrays.stream(way).sum() + turns + 1;
-                    if (risers >= least && risers <= greatest) {
-                        int[] row = Arrays.copyOf(new int[] {risers, a, b, c}, flights + 1);
-                        ways.add(row);
-                    }
-                }
-            }
-        }
-        ways.sort(Arrays::compare);
-        return ways.subList(0, Math.min(2000, ways.size()));
-    }
-
-    private int firstBroken() {
-        List<int[]> rows = laws.isEmpty() ? null : stair.lay();
-        for (int i = 0; i < laws.size(); i++) {
-            if (laws.get(i).verdict(stair, rows)[0] == 1) {
-                return i;
-            }
-        }
-        return -2;
-    }
-
     private void best(StairShop shop) {
         int least = between(2, 40);
         int greatest = Math.min(67, least + between(0, 5));
-        List<int[]> ways = ways(least, greatest);
-        int cost = -2;
-        int[] told = {-1, -1, -1, -1};
-        int kept = 0;
-        int got = shop.best(least, greatest);
-        for (int i = 0; i < ways.size(); i++) {
-            stair.treads = Arrays.copyOfRange(ways.get(i), 1, ways.get(i).length);
-            int broken = firstBroken();
-            DUE.same("tried(" + i + ")", shop.tried(i), i < 200 ? broken : -1);
-            if (broken == -2) {
-                kept++;
-                int now = stair.cost(prices);
-                if (kept == 1 || now < cost) {
-                    cost = now;
-                    Arrays.fill(told, -1);
-                    System.arraycopy(ways.get(i), 0, told, 0, ways.get(i).length);
-                }
-            }
+        BestOracle due = new BestOracle(stair, laws, prices, least, greatest);
+        DUE.same("best()", shop.best(least, greatest), due.cost);
+        for (int i = 0; i < due.broken.size(); i++) {
+            DUE.same("tried(" + i + ")", shop.tried(i), i < 200 ? due.broken.get(i) : -1);
         }
-        DUE.same("best()", got, cost);
-        DUE.same("bestOf(0)", shop.bestOf(0), ways.size());
-        DUE.same("bestOf(5)", shop.bestOf(5), kept);
+        DUE.same("bestOf(0)", shop.bestOf(0), due.broken.size());
+        DUE.same("bestOf(5)", shop.bestOf(5), due.kept);
         for (int what = 1; what < 5; what++) {
-            DUE.same("bestOf(" + what + ")", shop.bestOf(what), told[what - 1]);
+            DUE.same("bestOf(" + what + ")", shop.bestOf(what), due.told[what - 1]);
         }
-        DUE.same("take()", shop.take() ? 1 : 0, kept > 0 ? 1 : 0);
-        if (kept > 0) {
-            this.told++;
-            DUE.same("T", shop.size(5), told[0] - 1);
+        DUE.same("take()", shop.take() ? 1 : 0, due.kept > 0 ? 1 : 0);
+        if (due.kept > 0) {
+            told++;
+            DUE.same("T", shop.size(5), due.told[0] - 1);
             DUE.same("may()", shop.may(), -2);
-            DUE.same("PRICE", shop.size(8), cost);
+            DUE.same("PRICE", shop.size(8), due.cost);
         }
-    }
-
-    private static boolean fits(int[] pieces, int at, int[] rooms) {
-        if (at == pieces.length) {
-            return true;
-        }
-        for (int b = 0; b < rooms.length; b++) {
-            boolean same = b > 0 && rooms[b] == rooms[b - 1];
-            if (!same && rooms[b] >= pieces[at]) {
-                rooms[b] -= pieces[at];
-                boolean all = fits(pieces, at + 1, rooms);
-                rooms[b] += pieces[at];
-                if (all) {
-                    return true;
-                }
-            }
-        }
-        return false;
     }
 
     private void boards() {
@@ -214,13 +147,7 @@ public final class ReckonTest {
             pieces[i] = between(1, Math.max(1, random.nextBoolean() ? length / 2 : length));
             shop.piece(pieces[i]);
         }
-        int fewest = 0;
-        int[] rooms = new int[0];
-        while (!fits(pieces, 0, rooms)) {
-            fewest++;
-            rooms = new int[fewest];
-            Arrays.fill(rooms, length);
-        }
+        int fewest = BoardOracle.fewest(pieces, length);
         DUE.same("boards(" + length + ") of " + Arrays.toString(pieces), shop.boards(length), fewest);
     }
 }

@@ -13,6 +13,20 @@ final class StairOracle {
     int[] turns;
     List<int[]> beams = new ArrayList<>();
 
+    StairOracle copy() {
+        StairOracle copy = new StairOracle();
+        copy.height = height;
+        copy.width = width;
+        copy.walk = walk;
+        copy.post = post;
+        copy.bull = bull;
+        copy.treads = treads.clone();
+        copy.lengths = lengths.clone();
+        copy.turns = turns.clone();
+        copy.beams = new ArrayList<>(beams);
+        return copy;
+    }
+
     /** Tells a shop this stair. */
     void tellTo(StairShop shop) {
         shop.measures(height, width, walk, post);
